@@ -8,6 +8,7 @@ public final class CoverTest {
         strengths();
         drawing();
         refusedGuns();
+        sixteen();
         due.end();
     }
 
@@ -104,6 +105,16 @@ public final class CoverTest {
         order(x, 7, 10, 1, 2, 0);
         for (int i = 0; i < 5; i++) x.mark(2, 1, 0, 0);
         order(x, 7 + 16 + 32 + 64 + 128, 10, 1, 2, 0, 4, 5, 6, 7);
+    }
+
+    private static void sixteen() {
+        TruceLine x = new TruceLine();
+        for (int m = 0; m < 16; m++) x.mark(m % 3 == 0 ? 2 : 5, m % 2, 0, m);
+        due.is("strength of eight", x.strength(0), 56);
+        due.is("strength of the others", x.strength(1), 64);
+        order(x, 7 << 13, 9, 13, 14, 15);
+        order(x, 127 << 9, 30, 9, 10, 11, 12, 13, 14, 15);
+        due.is("seven ends 15 apart", x.drawBack(127 << 9, 9, -1), 7);
     }
 
     private static void refusedGuns() {

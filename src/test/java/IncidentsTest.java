@@ -184,8 +184,19 @@ public final class IncidentsTest {
         due.is("in another HOUR without MARK 0", x.look(13), 2);
         x.gone(1, 1);
         due.is("without any", x.look(12), -1);
+        manyLooks();
         due.is("look(-1)", x.look(-1), -2);
         due.is("look(1000)", x.look(1000), -2);
+    }
+
+    private static void manyLooks() {
+        TruceLine x = new TruceLine();
+        for (int m = 0; m < 16; m++) x.mark(0, 0, 0, 0);
+        for (int d = 0; d < 12; d++) x.doing(0, 63, 12);
+        due.is("all twelve unheard", x.worst(15, 12, 0), 12);
+        due.is("all twelve, whoever looks", x.look(12), 0);
+        for (int m = 0; m < 15; m++) x.gone(m, 1);
+        due.is("the last one looks", x.look(12), 30);
     }
 
     private static void findings() {

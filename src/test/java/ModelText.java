@@ -160,5 +160,4 @@ final class ModelText {
         open--;
         return all;
     }
-
 }

@@ -12,6 +12,7 @@ public final class ShotsTest {
         calming();
         longCalm();
         refusedCalm();
+        sixteen();
         due.end();
     }
 
@@ -162,6 +163,17 @@ public final class ShotsTest {
         due.is("24", x.calm(0, 5, 3, 24), 1);
         due.is("25 is enough", x.calm(0, 6, 3, 24), 0);
         due.is("the answer itself", x.calm(0, 10, 3, 1), 2);
+    }
+
+    private static void sixteen() {
+        TruceLine x = new TruceLine();
+        for (int m = 0; m < 16; m++) x.mark(0, m % 2, m % 8, 0);
+        due.is("shots of the last one", x.shots(15, 10, 1), 0b0101000001010000);
+        due.is("its answer", x.shots(15, 10, 2), 0b1010101010101010);
+        due.is("calm of the last one", x.calm(15, 10, 0b0101010001010000, 1), 0b0101000001010000);
+        for (int m = 0; m < 16; m++) x.hold(m, 1);
+        due.is("all are held", x.shots(15, 10, 1), 0);
+        due.is("all are held, and told", x.calm(15, 10, 63 << 10, 1), 0);
     }
 
     private static void refusedCalm() {

@@ -1,4 +1,7 @@
-/** What can be asked of an object without changing it, and its SHEETS behind that: for an object that is used no more. */
+/**
+ * What can be asked of an object without changing it, and then its SHEETS (told as HEIGHTS):
+ * for an object that is used no more.
+ */
 final class Told {
     private static final int[] SOME_HOURS = {0, 13, 999};
 

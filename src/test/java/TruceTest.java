@@ -69,6 +69,9 @@ public final class TruceTest {
         fault("breach 1 ; shoot 1 ; bogus", 21);
         fault("breach bogus ; shoot 1 ;", 7);
         fault("breach sizes ; shoot 1 ;", 7);
+        fault("breach xize ; shoot 1 ;", 7);
+        fault("breach 1 ; or 1 ;", 11);
+        fault("breach 1 shoot 2 ; shoot 1 ;", 9);
         fault("breaches 1 ; shoot 1 ;", 0);
         fault("breach Size ; shoot 1 ;", 7);
         fault("breach 1 orand 2 ; shoot 1 ;", 9);
@@ -93,6 +96,14 @@ public final class TruceTest {
         fault("breach \u00ff ; shoot 1 ;", 7);
         fault("breach \u0000 ; shoot 1 ;", 7);
         fault("breach 1 ; shoot 1 ; ;", 21);
+        String filled = "breach 1 ; shoot 1 " + " ".repeat(137);
+        fine(filled + "   ;");
+        fault(filled + " + 1", 160);
+        fault(filled + "+123", 160);
+        fault(filled + "or a", 159);
+        fault(filled + "    ", 160);
+        fault(filled + "*far", 160);
+        fine("breach 1" + "-1".repeat(70) + ";shoot 1 ; ");
     }
 
     private static void openOnes() {
@@ -322,6 +333,7 @@ public final class TruceTest {
         due.is("until ahead", x.permit(0, 0, 0, 5, 4), -2);
         due.is("none", x.count(1), 0);
         due.is("none may", x.may(7, 0, 0), -1);
+        due.is("nor person 0", x.may(0, 63, 0), -1);
         due.is("first", x.permit(7, 2, 3, 10, 20), 0);
         due.is("second", x.permit(7, 3, 7, 0, 999), 1);
         due.is("third", x.permit(99, 0, 0, 998, 999), 2);
@@ -339,7 +351,9 @@ public final class TruceTest {
         due.is("may of -1", x.may(-1, 0, 0), -2);
         due.is("may in 64", x.may(0, 64, 0), -2);
         due.is("may at 1000", x.may(0, 0, 1000), -2);
-        for (int i = 3; i < 12; i++) due.is("permit " + i, x.permit(0, 0, 7, 0, 999), i);
+        due.is("the last row alone", x.permit(0, 7, 7, 0, 1), 3);
+        due.is("person 0 there", x.may(0, 56, 0), 3);
+        for (int i = 4; i < 12; i++) due.is("permit " + i, x.permit(0, 0, 7, 0, 999), i);
         due.is("a 13th", x.permit(0, 0, 7, 0, 999), -4);
         due.is("a wrong 13th", x.permit(0, 0, 8, 0, 999), -2);
         due.is("count", x.count(1), 12);
