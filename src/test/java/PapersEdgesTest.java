@@ -144,6 +144,14 @@ public final class PapersEdgesTest {
         edges.refused("the greatest", BAD, x -> x.blame(GREATEST));
         edges.of("promise 41: of no PROTESTS");
         edges.refused("PROTEST 0", BAD, x -> x.blame(0));
+        edges.of("promise 41: NONE, about HOUR 0", x -> x.protest(1, 10, 0));
+        edges.refused("one alone", NONE, x -> x.blame(0));
+        edges.is("then another one", 1, x -> x.protest(0, 0, 0), x -> x.blame(0));
+        edges.of("promise 41: NONE, 20 of one SIDE", x -> {
+            for (int p = 0; p < 20; p++) x.protest(1, 10, 0);
+        });
+        edges.refused("the first", NONE, x -> x.blame(0));
+        edges.refused("the last", NONE, x -> x.blame(19));
         edges.of("promise 41: of 20", x -> protests(x, 20));
         edges.is("by the last", 19, x -> {
             for (int p = 0; p < 18; p++) x.answer(p, 10);

@@ -13,6 +13,7 @@ public final class PlansEdgesTest {
         coverByPosts();
         cover();
         guns();
+        noGuns();
         oneByOne();
         leastFirst();
         places();
@@ -132,10 +133,29 @@ public final class PlansEdgesTest {
         edges.refused("no MARK", BAD, x -> x.drawBack(1 << 16, 9999, MANY));
         edges.refused("bit 31", BAD, x -> x.drawBack(LEAST, 9999, MANY));
         edges.refused("all bits", BAD, x -> x.drawBack(-1, 9999, MANY));
+        edges.is("the first MARK is GONE", BAD, x -> x.gone(0, 1), x -> x.drawBack(3, 9999, MANY));
+        edges.is("the first MARK is back", 2, x -> {
+            x.gone(0, 1);
+            x.gone(0, 0);
+        }, x -> x.drawBack(3, 9999, MANY));
         edges.is("the least apart", NONE, x -> x.drawBack(0, 0, MANY), x -> x.drawBack(1, 0, 0));
         edges.refused("apart too small", BAD, x -> x.drawBack(1, -1, MANY));
         edges.refused("apart too large", BAD, x -> x.drawBack(1, 10000, MANY));
         edges.refused("the greatest apart there is", BAD, x -> x.drawBack(1, GREATEST, MANY));
+    }
+
+    private static void noGuns() {
+        for (int kind = 0; kind < 6; kind++) {
+            int k = kind;
+            boolean gun = k == GUN || k == BATTERY;
+            edges.of("promise 36: BAD: no GUN, nor under one, KIND " + k + " alone", x -> x.mark(k, 0, 0, 1));
+            edges.is("SIDE 0", gun ? 1 : BAD, x -> x.drawBack(1, 9999, MANY));
+            edges.of("promise 36: BAD: of SIDE 2, KIND " + k + " alone", x -> x.mark(k, 2, 0, 1));
+            edges.refused("SIDE 2", BAD, x -> x.drawBack(1, 9999, MANY));
+        }
+        edges.of("promise 36: BAD: no MARKS");
+        edges.refused("MARK 0", BAD, x -> x.drawBack(1, 9999, MANY));
+        edges.is("none of none", 0, x -> x.drawBack(0, 0, MANY));
     }
 
     private static void sizes(TruceLine x, int... sizes) {

@@ -241,6 +241,12 @@ public final class ShotsEdgesTest {
         });
         edges.is("none told: NONE", NONE, x -> x.calm(0, 5, 0, 1));
         edges.is("6 told are too few", NONE, x -> x.calm(0, 5, 0b101010101010, 1));
+        edges.is("one that is not told does not help", NONE, x -> {
+            for (int m = 2; m < 16; m++) x.gone(m, 1);
+        }, x -> x.calm(1, 5, 2, 1));
+        edges.is("it does, if it is told", 1, x -> {
+            for (int m = 2; m < 16; m++) x.gone(m, 1);
+        }, x -> x.calm(1, 5, 3, 1));
         edges.is("6 told, the seventh is HELD", 0b101010101010, x -> x.hold(13, 1), x -> x.calm(0, 5, 0b101010101010, 1));
         edges.is("a watcher is told", 0b1010, x -> {
             for (int m = 5; m < 15; m++) x.gone(m, 1);

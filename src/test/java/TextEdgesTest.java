@@ -105,9 +105,24 @@ public final class TextEdgesTest {
             fault(7, "breach " + name.toUpperCase() + TAIL);
             fault(7 + name.length(), "breach " + name + "1" + TAIL);
             fault(8 + name.length(), "breach " + name + " " + name + TAIL);
+            fault(9, "breach 1 " + name + " 1" + TAIL);
+            for (int i = 0; i < name.length(); i++) {
+                fault(7, "breach " + name.substring(0, i) + "q" + name.substring(i + 1) + TAIL);
+            }
         }
         String[] keys = {"breach", "shoot", "or", "and"};
-        for (String key : keys) fault(7, "breach " + key + " 1" + TAIL);
+        for (String key : keys) {
+            fault(7, "breach " + key + " 1" + TAIL);
+            for (int i = 0; i < key.length(); i++) {
+                fault(9, "breach 1 " + key.substring(0, i) + "q" + key.substring(i + 1) + " 1" + TAIL);
+            }
+        }
+        fault(9, "breach 1 breach 1" + TAIL);
+        fault(9, "breach 1 shoot 1" + TAIL);
+        fault(9, "breach 1 not 1" + TAIL);
+        fault(9, "breach 1 qot 1" + TAIL);
+        fine("breach 1 or 1" + TAIL);
+        fine("breach 1 and 1" + TAIL);
         fine("breach not 1" + TAIL);
         fine("breach not1" + TAIL);
         fault(7, "breach notsize" + TAIL);
@@ -163,6 +178,8 @@ public final class TextEdgesTest {
             fault(end + 1, whole.substring(0, end) + "\n");
         }
         fault(160, whole.substring(0, 22) + " ".repeat(138));
+        fault(0, ";".repeat(160));
+        fault(1, " " + ";".repeat(159));
         fault(159, "breach " + "-1".repeat(76));
     }
 
