@@ -35,6 +35,11 @@ public final class FaceTest {
         due.end();
     }
 
+    /** The names of all calls of the document. */
+    static String[] names() {
+        return METHODS.replaceAll("(?:int|long) (\\w+)\\([a-z,]*\\)", "$1").split(";");
+    }
+
     private static void checkInside(Due due) {
         int classes = 1;
         for (Class<?> c : TruceLine.class.getDeclaredClasses()) {
